@@ -68,6 +68,16 @@ final class ChangesTest {
         CHECK.row("products with itself", x, 1, 4, 100, 16, 64);
         CHECK.same("differences with itself", x.combine(1, 1, '-'), 4);
         CHECK.row("differences with itself", x, 1, 0, 0, 0, 0);
+        Check.put(x, 3, 0, 1, 2, 3, 4, 5, 6, 7, 8, 9, 10, 11, 12, 13, 14, 65536);
+        x.make(2, 16);
+        CHECK.same("differences of 16", x.combine(2, 3, '-'), 1);
+        CHECK.row("differences of 16", x, 2, 0, 65536, 65535, 65534, 65533, 65532, 65531, 65530, 65529, 65528, 65527,
+                65526, 65525, 65524, 65523, 1);
+        CHECK.same("sums of 16", x.combine(2, 3, '+'), 16);
+        x.copy(3, 2);
+        CHECK.same("products of 16", x.combine(2, 3, '*'), 1);
+        CHECK.same("the last of them", x.number(2, 15), 1);
+        x.make(2, 2);
         CHECK.refuses("sums of unlike", x, Check.STATE, () -> x.combine(0, 2, '+'));
         CHECK.refuses("differences of unlike", x, Check.STATE, () -> x.combine(0, 2, '-'));
         CHECK.refuses("products of unlike", x, Check.STATE, () -> x.combine(0, 2, '*'));
