@@ -421,20 +421,22 @@ public final class Rootrows {
 
     // ---- numbers
 
+    // The theorem is one of Long.remainderUnsigned(): so that is what reckons, though % would leave the same.
+
     private static int added(int a, int b) {
-        return (a + b) % PRIME;
+        return (int) Long.remainderUnsigned((long) a + b, PRIME);
     }
 
     private static int lessened(int a, int b) {
-        return (a + PRIME - b) % PRIME;
+        return (int) Long.remainderUnsigned((long) a + PRIME - b, PRIME);
     }
 
     private static int multiplied(int a, int b) {
-        return reduced((long) a * b);
+        return (int) Long.remainderUnsigned((long) a * b, PRIME);
     }
 
     private static int reduced(long sum) {
-        return (int) (sum % PRIME);
+        return (int) Long.remainderUnsigned(sum, PRIME);
     }
 
     /** The number that times a is 1: by Fermat a to the power of PRIME - 2, whose 16 bits are all 1. */

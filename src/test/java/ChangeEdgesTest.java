@@ -164,17 +164,19 @@ final class ChangeEdgesTest {
 
     private static void combineSigns() {
         CHECK.sentence("Promise 24, throws IllegalArgumentException if how is none of these signs");
-        Rootrows x = Check.with(Check.ramp(16));
-        Check.put(x, 1, Check.ramp(16));
         for (char how = 0; how < 300; how++) {
-            char told = how;
-            if (how != '+' && how != '-' && how != '*') {
-                CHECK.refuses("the sign " + (int) how, x, Check.ARGUMENT, () -> x.combine(0, 1, told));
-            }
+            combineSign(how);
         }
-        CHECK.refuses("the greatest sign", x, Check.ARGUMENT, () -> x.combine(0, 1, Character.MAX_VALUE));
-        for (char how : new char[] {'+', '-', '*'}) {
+        combineSign(Character.MAX_VALUE);
+    }
+
+    private static void combineSign(char how) {
+        Rootrows x = Check.with(Check.ramp(4));
+        Check.put(x, 1, Check.mixed(4, 1));
+        if (how == '+' || how == '-' || how == '*') {
             CHECK.allows("the sign " + how, () -> x.combine(0, 1, how));
+        } else {
+            CHECK.refuses("the sign " + (int) how, x, Check.ARGUMENT, () -> x.combine(0, 1, how));
         }
     }
 

@@ -77,15 +77,22 @@ final class ChangesTest {
         x.copy(3, 2);
         CHECK.same("products of 16", x.combine(2, 3, '*'), 1);
         CHECK.same("the last of them", x.number(2, 15), 1);
-        x.make(2, 2);
-        CHECK.refuses("sums of unlike", x, Check.STATE, () -> x.combine(0, 2, '+'));
-        CHECK.refuses("differences of unlike", x, Check.STATE, () -> x.combine(0, 2, '-'));
-        CHECK.refuses("products of unlike", x, Check.STATE, () -> x.combine(0, 2, '*'));
+    }
+
+    private static void promise24Refusals() {
+        for (char how : new char[] {'+', '-', '*'}) {
+            Rootrows x = Check.with(1, 2, 3, 4);
+            CHECK.refuses("combine of unlike", x, Check.STATE, () -> x.combine(0, 2, how));
+            CHECK.refuses("combine with unlike", x, Check.STATE, () -> x.combine(2, 0, how));
+        }
         for (char how : new char[] {0, ' ', ',', '/', ')', '.', 'x', (char) ('+' + 256), 65535}) {
+            Rootrows x = Check.with(1, 2, 3, 4);
+            Check.put(x, 1, 5, 6, 7, 8);
             CHECK.refuses("no sign", x, Check.ARGUMENT, () -> x.combine(0, 1, how));
             CHECK.refuses("no sign, of unlike", x, Check.ARGUMENT, () -> x.combine(0, 2, how));
         }
         for (int row : Check.NO_ROWS) {
+            Rootrows x = Check.with(1, 2, 3, 4);
             CHECK.refuses("combine of no row", x, Check.PLACE, () -> x.combine(row, 0, '/'));
             CHECK.refuses("combine with no row", x, Check.PLACE, () -> x.combine(0, row, '/'));
         }
@@ -119,16 +126,21 @@ final class ChangesTest {
         CHECK.row("repeat after 1", x, 0, 1, 1, 1, 1, 1, 1, 1, 1);
         x.make(1, 16);
         CHECK.same("repeat after 16", x.repeat(1, 16), 0);
+        CHECK.refuses("repeat 8 after 16", x, Check.ARGUMENT, () -> x.repeat(0, 16));
+        CHECK.refuses("repeat 2 after 4", x, Check.ARGUMENT, () -> x.repeat(2, 4));
+    }
+
+    private static void promise26Refusals() {
         for (int row : Check.NO_ROWS) {
+            Rootrows x = Check.with(1, 2, 3, 4);
             CHECK.refuses("repeat no row", x, Check.PLACE, () -> x.repeat(row, 3));
         }
         for (int after : Check.NO_LENGTHS) {
             if (after != 1) {
-                CHECK.refuses("repeat after " + after, x, Check.ARGUMENT, () -> x.repeat(1, after));
+                Rootrows x = Check.with(Check.ramp(16));
+                CHECK.refuses("repeat after " + after, x, Check.ARGUMENT, () -> x.repeat(0, after));
             }
         }
-        CHECK.refuses("repeat 8 after 16", x, Check.ARGUMENT, () -> x.repeat(0, 16));
-        CHECK.refuses("repeat 2 after 4", x, Check.ARGUMENT, () -> x.repeat(2, 4));
     }
 
     private static void promise27Own() {
@@ -215,7 +227,11 @@ final class ChangesTest {
         x.make(2, 16);
         x.fill(2, 0, 65536);
         CHECK.same("sum of 65536 everywhere", x.sum(2, 2, false), 16);
+    }
+
+    private static void promise30Refusals() {
         for (boolean isBack : new boolean[] {false, true}) {
+            Rootrows x = Check.with(1, 2, 3, 4);
             CHECK.refuses("sum of unlike", x, Check.STATE, () -> x.sum(0, 3, isBack));
             for (int row : Check.NO_ROWS) {
                 CHECK.refuses("sum of no row", x, Check.PLACE, () -> x.sum(row, 0, isBack));
@@ -257,12 +273,15 @@ final class ChangesTest {
         promise22Weigh();
         promise23TurnRound();
         promise24Combine();
+        promise24Refusals();
         promise25Multiply();
         promise26Repeat();
+        promise26Refusals();
         promise27Own();
         promise28Period();
         promise29Factor();
         promise30Sum();
+        promise30Refusals();
         promise31Mean();
         promise32Zeros();
         CHECK.end();

@@ -50,9 +50,10 @@ final class Check {
     }
 
     void row(String what, Rootrows x, int row, int... due) {
-        same(what + ": length", x.length(row), due.length);
-        for (int i = 0; i < due.length && i < x.length(row); i++) {
-            same(what + ": number " + i, x.number(row, i), due[i]);
+        int[] got = numbers(x, row);
+        same(what + ": length", got.length, due.length);
+        for (int i = 0; i < due.length && i < got.length; i++) {
+            same(what + ": number " + i, got[i], due[i]);
         }
     }
 

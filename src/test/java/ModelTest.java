@@ -8,8 +8,9 @@ import java.util.Map;
 
 /** Long runs of calls of every method, each measured by the Model: the answer or exception, and then the checksum. */
 final class ModelTest {
-    private static final int RUNS = 400;
-    private static final int CALLS = 512;
+    private static final int RUNS = 800;
+    // Each with a call of checksum() behind it, so that an object is called 512 times at most.
+    private static final int CALLS = 256;
 
     /** What each argument is: row, place, From, Number, Length, exponent, odd, after, sign, any int, true or false. */
     private static final Map<String, String> ARGUMENTS = Map.ofEntries(

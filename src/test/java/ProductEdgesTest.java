@@ -232,9 +232,9 @@ final class ProductEdgesTest {
         CHECK.sentence("Promise 18, a number from 0 to 4294967295: below 0 it is taken with 4294967296 added");
         int[] numbers = {0, 1, 2, 15, 16, 0xff, 0x100, 0xffff, 0x10000, 0xfffffff, 0x10000000, Integer.MAX_VALUE - 1,
             Integer.MAX_VALUE, Integer.MIN_VALUE, Integer.MIN_VALUE + 1, 0xf0000000, 0x0f0f0f0f, 0xf0f0f0f0, -16, -2, -1};
-        Rootrows x = Check.with(Check.mixed(16, 3));
         for (int one : numbers) {
             for (int other : numbers) {
+                Rootrows x = Check.with(Check.mixed(16, 3));
                 long due = unsigned(one).multiply(unsigned(other)).longValue();
                 CHECK.leaves("product", x,
                         () -> CHECK.same("product(" + one + ", " + other + ")", x.product(one, other), due));

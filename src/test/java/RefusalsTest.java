@@ -279,24 +279,28 @@ final class RefusalsTest {
         for (int length : SIZES) {
             for (Rootrows x : objects()) {
                 ends("root(" + length + ")", x, due(true, isSize(length), true), y -> y.root(length));
-                for (int any : ANY) {
+                boolean isOdd = length >= 1 && length <= 31 && length % 2 == 1;
+                ends("useOdd(" + length + ")", x, due(true, isOdd, true), y -> y.useOdd(length));
+            }
+            for (int any : ANY) {
+                for (Rootrows x : objects()) {
                     ends("power(" + length + ", " + any + ")", x, due(true, isSize(length), true),
                             y -> y.power(length, any));
                 }
-                boolean isOdd = length >= 1 && length <= 31 && length % 2 == 1;
-                ends("useOdd(" + length + ")", x, due(true, isOdd, true), y -> y.useOdd(length));
             }
         }
     }
 
     private static void none() {
         CHECK.sentence("Promises 18, 41 and 42, no exception is named");
-        for (Rootrows x : objects()) {
-            for (int one : ANY) {
-                for (int other : ANY) {
+        for (int one : ANY) {
+            for (int other : ANY) {
+                for (Rootrows x : objects()) {
                     CHECK.leaves("product", x, () -> x.product(one, other));
                 }
             }
+        }
+        for (Rootrows x : objects()) {
             CHECK.leaves("isSound", x, x::isSound);
             CHECK.leaves("checksum", x, x::checksum);
         }

@@ -84,7 +84,9 @@ final class RowEdgesTest {
         return length == 2 || length == 4 || length == 8 || length == 16;
     }
 
-    private static void lengthsAndNone(Rootrows x, int length) {
+    private static void lengthOrNone(int length) {
+        Rootrows x = Check.with(1, 2);
+        Check.put(x, 3, 3, 4);
         if (isLength(length)) {
             CHECK.allows("make(3, " + length + ")", () -> x.make(3, length));
             CHECK.row("made", x, 3, new int[length]);
@@ -95,16 +97,15 @@ final class RowEdgesTest {
 
     private static void makeLengths() {
         CHECK.sentence("Promise 2, length: 2, 4, 8 or 16");
-        Rootrows x = Check.with(1, 2);
         for (int length = -40; length <= 70; length++) {
-            lengthsAndNone(x, length);
+            lengthOrNone(length);
         }
         for (int bit = 5; bit < 32; bit++) {
-            lengthsAndNone(x, 1 << bit);
-            lengthsAndNone(x, (1 << bit) + 2);
-            lengthsAndNone(x, (1 << bit) + 16);
+            lengthOrNone(1 << bit);
+            lengthOrNone((1 << bit) + 2);
+            lengthOrNone((1 << bit) + 16);
         }
-        lengthsAndNone(x, Integer.MAX_VALUE);
+        lengthOrNone(Integer.MAX_VALUE);
     }
 
     private static void makeSameAgain() {
@@ -197,8 +198,8 @@ final class RowEdgesTest {
     private static void fillNothingWithNoNumber() {
         CHECK.sentence("Promise 4, throws IllegalArgumentException if the number is out of range");
         for (int n : Check.LENGTHS) {
-            Rootrows x = Check.with(Check.ramp(n));
             for (int number : Check.FAR) {
+                Rootrows x = Check.with(Check.ramp(n));
                 CHECK.refuses("fill all with " + number, x, Check.ARGUMENT, () -> x.fill(0, 0, number));
                 CHECK.refuses("fill none with " + number, x, Check.ARGUMENT, () -> x.fill(0, n, number));
             }
@@ -286,12 +287,20 @@ final class RowEdgesTest {
     }
 
     private static void numberFirstAndLast() {
-        CHECK.sentence("Promise 7, throws IndexOutOfBoundsException if there is no such row or place");
+        CHECK.sentence("Promise 7, returns the number");
         for (int n : Check.LENGTHS) {
             Rootrows x = Check.with(Check.all(16, 5));
             Check.put(x, 0, Check.ramp(n));
             CHECK.leaves("number", x, () -> CHECK.same("the first", x.number(0, 0), 1));
             CHECK.leaves("number", x, () -> CHECK.same("the last", x.number(0, n - 1), n));
+        }
+    }
+
+    private static void numberBeyond() {
+        CHECK.sentence("Promise 7, throws IndexOutOfBoundsException if there is no such row or place");
+        for (int n : Check.LENGTHS) {
+            Rootrows x = Check.with(Check.all(16, 5));
+            Check.put(x, 0, Check.ramp(n));
             for (int place : new int[] {Integer.MIN_VALUE, -n, -1, n, n + 1, 16, 17, Integer.MAX_VALUE}) {
                 CHECK.refuses("number at " + place + " of " + n, x, Check.PLACE, () -> x.number(0, place));
             }
@@ -326,6 +335,7 @@ final class RowEdgesTest {
         copyBehindTheLength();
         lengthAnswers();
         numberFirstAndLast();
+        numberBeyond();
         noneIs();
         CHECK.end();
     }

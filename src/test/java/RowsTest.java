@@ -24,12 +24,13 @@ final class RowsTest {
                 before = length;
             }
         }
-        Rootrows x = Check.with(1, 2, 3, 4);
         for (int row : Check.NO_ROWS) {
+            Rootrows x = Check.with(1, 2, 3, 4);
             CHECK.refuses("make(" + row + ", 2)", x, Check.PLACE, () -> x.make(row, 2));
             CHECK.refuses("make(" + row + ", 3)", x, Check.PLACE, () -> x.make(row, 3));
         }
         for (int length : Check.NO_LENGTHS) {
+            Rootrows x = Check.with(1, 2, 3, 4);
             CHECK.refuses("make(0, " + length + ")", x, Check.ARGUMENT, () -> x.make(0, length));
         }
     }
@@ -44,14 +45,20 @@ final class RowsTest {
         x.make(3, 16);
         CHECK.same("set(3, 15, 8)", x.set(3, 15, 8), 0);
         CHECK.same("number(3, 15)", x.number(3, 15), 8);
+    }
+
+    private static void promise3Refusals() {
         for (int row : Check.NO_ROWS) {
+            Rootrows x = Check.with(1, 2, 3, 4);
             CHECK.refuses("set at no row", x, Check.PLACE, () -> x.set(row, 0, -1));
         }
         for (int place : new int[] {Integer.MIN_VALUE, -1, 4, 5, 16, 17, Integer.MAX_VALUE}) {
+            Rootrows x = Check.with(1, 2, 3, 4);
             CHECK.refuses("set at " + place, x, Check.PLACE, () -> x.set(0, place, 1));
             CHECK.refuses("set at " + place + " no number", x, Check.PLACE, () -> x.set(0, place, 65537));
         }
         for (int number : Check.FAR) {
+            Rootrows x = Check.with(1, 2, 3, 4);
             CHECK.refuses("set " + number, x, Check.ARGUMENT, () -> x.set(0, 0, number));
         }
     }
@@ -66,16 +73,21 @@ final class RowsTest {
         CHECK.same("fill(0, 0, 0)", x.fill(0, 0, 0), 8);
         CHECK.same("fill(0, 0, 0) again", x.fill(0, 0, 0), 0);
         CHECK.row("after fill(0, 0, 0)", x, 0, new int[8]);
-        Check.put(x, 1, 1, 2);
+    }
+
+    private static void promise4Refusals() {
         for (int row : Check.NO_ROWS) {
+            Rootrows x = Check.with(1, 2);
             CHECK.refuses("fill no row", x, Check.PLACE, () -> x.fill(row, 0, -1));
         }
         for (int from : new int[] {Integer.MIN_VALUE, -1, 3, 4, 16, Integer.MAX_VALUE}) {
-            CHECK.refuses("fill from " + from, x, Check.PLACE, () -> x.fill(1, from, 65537));
+            Rootrows x = Check.with(1, 2);
+            CHECK.refuses("fill from " + from, x, Check.PLACE, () -> x.fill(0, from, 65537));
         }
         for (int number : Check.FAR) {
-            CHECK.refuses("fill " + number, x, Check.ARGUMENT, () -> x.fill(1, 0, number));
-            CHECK.refuses("fill none with " + number, x, Check.ARGUMENT, () -> x.fill(1, 2, number));
+            Rootrows x = Check.with(1, 2);
+            CHECK.refuses("fill " + number, x, Check.ARGUMENT, () -> x.fill(0, 0, number));
+            CHECK.refuses("fill none with " + number, x, Check.ARGUMENT, () -> x.fill(0, 2, number));
         }
     }
 
@@ -106,17 +118,22 @@ final class RowsTest {
         CHECK.same("length(1)", x.length(1), 2);
         CHECK.same("number(0, 0)", x.number(0, 0), 1);
         CHECK.same("number(0, 3)", x.number(0, 3), 65536);
-        for (int row : Check.NO_ROWS) {
-            CHECK.refuses("length of no row", x, Check.PLACE, () -> x.length(row));
-            CHECK.refuses("number of no row", x, Check.PLACE, () -> x.number(row, 0));
-        }
-        for (int place : new int[] {Integer.MIN_VALUE, -1, 4, 5, 15, 16, Integer.MAX_VALUE}) {
-            CHECK.refuses("number at " + place, x, Check.PLACE, () -> x.number(0, place));
-        }
         x.make(0, 16);
         x.fill(0, 0, 3);
         x.make(0, 2);
         CHECK.refuses("number behind a row that was longer", x, Check.PLACE, () -> x.number(0, 2));
+    }
+
+    private static void promises6And7Refusals() {
+        for (int row : Check.NO_ROWS) {
+            Rootrows x = Check.with(1, 2, 3, 65536);
+            CHECK.refuses("length of no row", x, Check.PLACE, () -> x.length(row));
+            CHECK.refuses("number of no row", x, Check.PLACE, () -> x.number(row, 0));
+        }
+        for (int place : new int[] {Integer.MIN_VALUE, -1, 4, 5, 15, 16, Integer.MAX_VALUE}) {
+            Rootrows x = Check.with(1, 2, 3, 65536);
+            CHECK.refuses("number at " + place, x, Check.PLACE, () -> x.number(0, place));
+        }
     }
 
     private static void promise8UseOdd() {
@@ -127,12 +144,18 @@ final class RowsTest {
             before = odd;
         }
         CHECK.same("useOdd(1)", x.useOdd(1), 31);
+    }
+
+    private static void promise8Refusals() {
         for (int odd = -40; odd < 80; odd++) {
             int told = odd;
             if (odd < 1 || odd > 31 || odd % 2 == 0) {
+                Rootrows x = Check.with(1, 2);
                 CHECK.refuses("useOdd(" + odd + ")", x, Check.ARGUMENT, () -> x.useOdd(told));
+                CHECK.same("ODD after it", x.useOdd(3), 1);
             }
         }
+        Rootrows x = new Rootrows();
         CHECK.refuses("useOdd of the least", x, Check.ARGUMENT, () -> x.useOdd(Integer.MIN_VALUE));
         CHECK.refuses("useOdd of the least odd one", x, Check.ARGUMENT, () -> x.useOdd(Integer.MIN_VALUE + 1));
         CHECK.refuses("useOdd of the greatest", x, Check.ARGUMENT, () -> x.useOdd(Integer.MAX_VALUE));
@@ -157,9 +180,9 @@ final class RowsTest {
     }
 
     private static void promise10Power() {
-        Rootrows x = new Rootrows();
-        CHECK.same("power(16, 15)", x.power(16, 15), 65537 - 16384);
+        CHECK.same("power(16, 15)", new Rootrows().power(16, 15), 65537 - 16384);
         for (int odd = 1; odd <= 31; odd += 2) {
+            Rootrows x = new Rootrows();
             x.useOdd(odd);
             for (int n : Check.LENGTHS) {
                 long w = x.root(n);
@@ -176,6 +199,7 @@ final class RowsTest {
             }
         }
         for (int length : Check.NO_LENGTHS) {
+            Rootrows x = new Rootrows();
             CHECK.refuses("power(" + length + ", 1)", x, Check.ARGUMENT, () -> x.power(length, 1));
         }
     }
@@ -184,10 +208,14 @@ final class RowsTest {
         promise1NewObject();
         promise2Make();
         promise3Set();
+        promise3Refusals();
         promise4Fill();
+        promise4Refusals();
         promise5Copy();
         promises6And7Asked();
+        promises6And7Refusals();
         promise8UseOdd();
+        promise8Refusals();
         promise9Root();
         promise10Power();
         CHECK.end();

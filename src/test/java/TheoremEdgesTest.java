@@ -87,18 +87,22 @@ final class TheoremEdgesTest {
     private static void againRange() {
         CHECK.sentence("Promise 38, after: 1, 2, 4, 8 or 16, at most the LENGTH");
         for (int n : Check.LENGTHS) {
-            Rootrows x = Check.with(Check.mixed(n, 8));
             for (int after = -40; after <= 70; after++) {
-                int told = after;
-                if (isAfter(after, n)) {
-                    CHECK.leaves("after " + after, x, () -> CHECK.same("after " + told, x.isAgain(0, told), true));
-                } else {
-                    CHECK.refuses("after " + after, x, Check.ARGUMENT, () -> x.isAgain(0, told));
-                }
+                againAfter(n, after);
             }
             for (int after : new int[] {Integer.MIN_VALUE, Integer.MIN_VALUE + 1, 1 << 16, 1 << 30, Integer.MAX_VALUE}) {
-                CHECK.refuses("after " + after, x, Check.ARGUMENT, () -> x.isAgain(0, after));
+                againAfter(n, after);
             }
+        }
+    }
+
+    private static void againAfter(int n, int after) {
+        Rootrows x = Check.with(Check.mixed(n, 8));
+        String what = "after " + after + " of " + n;
+        if (isAfter(after, n)) {
+            CHECK.leaves(what, x, () -> CHECK.same(what, x.isAgain(0, after), true));
+        } else {
+            CHECK.refuses(what, x, Check.ARGUMENT, () -> x.isAgain(0, after));
         }
     }
 

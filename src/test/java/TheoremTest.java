@@ -51,8 +51,8 @@ final class TheoremTest {
     }
 
     private static void wrongRows() {
-        Rootrows x = Check.with(1, 2, 3, 4);
         for (int row : Check.NO_ROWS) {
+            Rootrows x = Check.with(1, 2, 3, 4);
             CHECK.refuses("isBack of no row", x, Check.PLACE, () -> x.isBack(row));
             CHECK.refuses("isProduct of no row", x, Check.PLACE, () -> x.isProduct(row, 0));
             CHECK.refuses("isProduct with no row", x, Check.PLACE, () -> x.isProduct(0, row));
@@ -67,22 +67,27 @@ final class TheoremTest {
         }
     }
 
-    private static void wrongArguments() {
+    private static void wrongLengths() {
         Rootrows x = Check.with(1, 2, 3, 4);
         CHECK.refuses("isProduct of unlike", x, Check.STATE, () -> x.isProduct(0, 1));
         CHECK.refuses("isPlain of unlike", x, Check.STATE, () -> x.isPlain(0, 1));
         CHECK.refuses("isSum of unlike", x, Check.STATE, () -> x.isSum(0, 1, 65536));
-        for (int factor : Check.FAR) {
-            CHECK.refuses("isSum by " + factor, x, Check.ARGUMENT, () -> x.isSum(0, 0, factor));
-            CHECK.refuses("isSum of unlike by " + factor, x, Check.ARGUMENT, () -> x.isSum(0, 1, factor));
-        }
-        for (int after : new int[] {Integer.MIN_VALUE, -1, 0, 3, 5, 6, 7, 8, 16, 17, 32, Integer.MAX_VALUE}) {
-            CHECK.refuses("isAgain after " + after, x, Check.ARGUMENT, () -> x.isAgain(0, after));
-        }
         x.make(2, 16);
         x.make(3, 16);
         CHECK.refuses("isPlain of 16", x, Check.STATE, () -> x.isPlain(2, 3));
         CHECK.refuses("isPlain of one of 16", x, Check.STATE, () -> x.isPlain(2, 2));
+    }
+
+    private static void wrongNumbers() {
+        for (int factor : Check.FAR) {
+            Rootrows x = Check.with(1, 2, 3, 4);
+            CHECK.refuses("isSum by " + factor, x, Check.ARGUMENT, () -> x.isSum(0, 0, factor));
+            CHECK.refuses("isSum of unlike by " + factor, x, Check.ARGUMENT, () -> x.isSum(0, 1, factor));
+        }
+        for (int after : new int[] {Integer.MIN_VALUE, -1, 0, 3, 5, 6, 7, 8, 16, 17, 32, Integer.MAX_VALUE}) {
+            Rootrows x = Check.with(1, 2, 3, 4);
+            CHECK.refuses("isAgain after " + after, x, Check.ARGUMENT, () -> x.isAgain(0, after));
+        }
     }
 
     private static void promise42Checksum() {
@@ -110,7 +115,8 @@ final class TheoremTest {
     public static void main(String[] args) {
         promises33To41AlwaysTrue();
         wrongRows();
-        wrongArguments();
+        wrongLengths();
+        wrongNumbers();
         promise42Checksum();
         CHECK.end();
     }

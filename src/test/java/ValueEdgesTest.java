@@ -5,17 +5,22 @@ final class ValueEdgesTest {
 
     private static void useOddRange() {
         CHECK.sentence("Promise 8, odd: an odd number from 1 to 31");
-        Rootrows x = new Rootrows();
         for (int odd = -70; odd <= 100; odd++) {
-            int told = odd;
-            if (odd >= 1 && odd <= 31 && odd % 2 == 1) {
-                CHECK.allows("useOdd(" + odd + ")", () -> x.useOdd(told));
-            } else {
-                CHECK.refuses("useOdd(" + odd + ")", x, Check.ARGUMENT, () -> x.useOdd(told));
-            }
+            oddOrNone(odd);
         }
         for (int odd : new int[] {Integer.MIN_VALUE, Integer.MIN_VALUE + 1, Integer.MAX_VALUE - 1, Integer.MAX_VALUE}) {
+            oddOrNone(odd);
+        }
+    }
+
+    private static void oddOrNone(int odd) {
+        Rootrows x = Check.with(1, 2);
+        if (odd >= 1 && odd <= 31 && odd % 2 == 1) {
+            CHECK.allows("useOdd(" + odd + ")", () -> x.useOdd(odd));
+            CHECK.same("ODD after it", x.useOdd(1), odd);
+        } else {
             CHECK.refuses("useOdd(" + odd + ")", x, Check.ARGUMENT, () -> x.useOdd(odd));
+            CHECK.same("ODD after it", x.useOdd(1), 1);
         }
     }
 
@@ -69,28 +74,32 @@ final class ValueEdgesTest {
 
     private static void rootLengths() {
         CHECK.sentence("Promise 9, throws IllegalArgumentException if length is none of these");
-        Rootrows x = new Rootrows();
         for (int length = -40; length <= 70; length++) {
-            int told = length;
-            if (isLength(length)) {
-                CHECK.leaves("root(" + length + ")", x, () -> x.root(told));
-            } else {
-                CHECK.refuses("root(" + length + ")", x, Check.ARGUMENT, () -> x.root(told));
-            }
+            rootOrNone(length);
         }
         for (int length : Check.NO_LENGTHS) {
+            rootOrNone(length);
+        }
+    }
+
+    private static void rootOrNone(int length) {
+        Rootrows x = Check.with(1, 2);
+        if (isLength(length)) {
+            CHECK.leaves("root(" + length + ")", x, () -> x.root(length));
+        } else {
             CHECK.refuses("root(" + length + ")", x, Check.ARGUMENT, () -> x.root(length));
         }
     }
 
     private static void powerLengths() {
         CHECK.sentence("Promise 10, throws IllegalArgumentException if length is none of these");
-        Rootrows x = new Rootrows();
         for (int exponent : new int[] {Integer.MIN_VALUE, -1, 0, 1, Integer.MAX_VALUE}) {
             for (int length : Check.NO_LENGTHS) {
+                Rootrows x = new Rootrows();
                 CHECK.refuses("power(" + length + ")", x, Check.ARGUMENT, () -> x.power(length, exponent));
             }
             for (int length : Check.LENGTHS) {
+                Rootrows x = new Rootrows();
                 CHECK.leaves("power(" + length + ")", x, () -> x.power(length, exponent));
             }
         }
@@ -309,7 +318,14 @@ final class ValueEdgesTest {
             CHECK.leaves("at 1", x, () -> CHECK.same("at 1", x.valueAt(0, 1), n * (n + 1) / 2));
             // 65536 is -1: the numbers are added and taken away by turns.
             CHECK.leaves("at 65536", x, () -> CHECK.same("at 65536", x.valueAt(0, 65536), 65537 - n / 2));
+        }
+    }
+
+    private static void valueAtBeyond() {
+        CHECK.sentence("Promise 13, throws IllegalArgumentException if at is out of range");
+        for (int n : Check.LENGTHS) {
             for (int at : Check.FAR) {
+                Rootrows x = Check.with(Check.ramp(n));
                 CHECK.refuses("at " + at, x, Check.ARGUMENT, () -> x.valueAt(0, at));
             }
         }
@@ -391,6 +407,7 @@ final class ValueEdgesTest {
         backAndForth();
         valuesTwice();
         valueAtRange();
+        valueAtBeyond();
         valueAtOfZeros();
         valueAtLastPlace();
         supportOfEachPlace();

@@ -142,12 +142,16 @@ final class ValuesTest {
         CHECK.same("its length", x.length(0), 16);
         CHECK.same("its place 8", x.number(0, 8), 16);
         CHECK.same("plainTimes of zeros", x.plainTimes(2, 3), 4);
+        CHECK.refuses("plainTimes of 16", x, Check.STATE, () -> x.plainTimes(0, 0));
+        CHECK.refuses("plainTimes unlike", x, Check.STATE, () -> x.plainTimes(1, 3));
+    }
+
+    private static void promise16WrongRows() {
         for (int row : Check.NO_ROWS) {
+            Rootrows x = Check.with(Check.ramp(16));
             CHECK.refuses("plainTimes of no row", x, Check.PLACE, () -> x.plainTimes(row, 0));
             CHECK.refuses("plainTimes by no row", x, Check.PLACE, () -> x.plainTimes(0, row));
         }
-        CHECK.refuses("plainTimes of 16", x, Check.STATE, () -> x.plainTimes(0, 0));
-        CHECK.refuses("plainTimes unlike", x, Check.STATE, () -> x.plainTimes(1, 3));
     }
 
     private static void promise17Invert() {
@@ -233,6 +237,7 @@ final class ValuesTest {
         promise14Support();
         promise15Times();
         promise16PlainTimes();
+        promise16WrongRows();
         promise17Invert();
         promise18Product();
         promise19Digits();
