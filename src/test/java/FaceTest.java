@@ -6,7 +6,10 @@ import java.util.Arrays;
 import java.util.Set;
 import java.util.TreeSet;
 
-/** The public face is just the document's, and nothing else of the class can be seen from without. */
+/**
+ * The public face is just the document's, and nothing else of the class can be seen from without; of LANGUAGE.md, that
+ * no private method bears the name of a public one.
+ */
 final class FaceTest {
     private static final String DUE = String.join("\n",
             "int make(int, int) IndexOutOfBoundsException IllegalArgumentException",
@@ -65,26 +68,56 @@ final class FaceTest {
                 + list(method.getParameterTypes(), ", ") + ")" + (thrown.isEmpty() ? "" : " " + thrown);
     }
 
-    public static void main(String[] args) {
+    public static void main(String[] args) throws NoSuchFieldException {
         Check check = new Check();
         Set<String> left = new TreeSet<>(Arrays.asList(DUE.split("\n")));
         for (Method method : Rootrows.class.getDeclaredMethods()) {
             if (Modifier.isPublic(method.getModifiers())) {
                 check.same("the document has " + line(method), left.remove(line(method)), true);
+                check.same("modifiers of " + method, method.getModifiers(), Modifier.PUBLIC);
             } else {
                 check.same(method + " is private", Modifier.isPrivate(method.getModifiers()), true);
+                check.same(method + " bears a public name", publicNames().contains(method.getName()), false);
             }
         }
         check.same("left out are " + left, left.size(), 0);
+        for (Class<?> inside : Rootrows.class.getDeclaredClasses()) {
+            for (Method method : inside.getDeclaredMethods()) {
+                check.same(method + " bears a public name", publicNames().contains(method.getName()), false);
+            }
+        }
         for (Field field : Rootrows.class.getDeclaredFields()) {
             boolean isDue = field.getName().equals("NONE") || Modifier.isPrivate(field.getModifiers());
             check.same(field + " is private", isDue, true);
         }
+        constructors(check);
+        none(check);
+        check.same("the class", Rootrows.class.getModifiers(), Modifier.PUBLIC | Modifier.FINAL);
+        check.same("the class above it", Rootrows.class.getSuperclass().getName(), "java.lang.Object");
+        check.same("interfaces", Rootrows.class.getInterfaces().length, 0);
+        check.end();
+    }
+
+    private static Set<String> publicNames() {
+        Set<String> names = new TreeSet<>();
+        for (String line : DUE.split("\n")) {
+            names.add(line.substring(line.indexOf(' ') + 1, line.indexOf('(')));
+        }
+        return names;
+    }
+
+    private static void constructors(Check check) {
         Constructor<?>[] constructors = Rootrows.class.getDeclaredConstructors();
         check.same("constructors", constructors.length, 1);
-        check.same("public, without parameters", Rootrows.class.getConstructors().length, 1);
-        check.same("the class is final", Modifier.isFinal(Rootrows.class.getModifiers()), true);
+        check.same("modifiers of the constructor", constructors[0].getModifiers(), Modifier.PUBLIC);
+        check.same("its parameters", constructors[0].getParameterCount(), 0);
+        check.same("its exceptions", constructors[0].getExceptionTypes().length, 0);
+    }
+
+    private static void none(Check check) throws NoSuchFieldException {
+        Field none = Rootrows.class.getDeclaredField("NONE");
+        check.same("modifiers of NONE", none.getModifiers(), Modifier.PUBLIC | Modifier.STATIC | Modifier.FINAL);
+        check.same("the type of NONE", none.getType().getName(), "int");
         check.same("NONE", Rootrows.NONE, -1);
-        check.end();
     }
 }

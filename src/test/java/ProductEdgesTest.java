@@ -224,6 +224,15 @@ final class ProductEdgesTest {
         }
     }
 
+    private static void invertEachNumber() {
+        CHECK.sentence("Part 1, 65537 is a prime number: so each number but 0 has one that times it is 1");
+        for (int number = 1; number <= 65536; number++) {
+            Rootrows x = Check.with(number, 0);
+            int inverse = x.invert(0);
+            CHECK.same(number + " times " + inverse, Check.reduced((long) number * inverse), 1);
+        }
+    }
+
     private static BigInteger unsigned(int number) {
         return BigInteger.valueOf(number & 0xffffffffL);
     }
@@ -314,6 +323,25 @@ final class ProductEdgesTest {
         CHECK.same("told", x.told(0), -8589934591L);
     }
 
+    private static void productByDigits() {
+        CHECK.sentence("Part 3, the RING PRODUCT's number at each place k times 16 to the power of k, added up");
+        int[] numbers = {0, 1, 15, 16, 0x10000000, 0x0f0f0f0f, 0x12345678, Integer.MAX_VALUE, Integer.MIN_VALUE, -16, -1};
+        for (int one : numbers) {
+            for (int other : numbers) {
+                for (boolean isByValues : WAYS) {
+                    Rootrows x = new Rootrows();
+                    x.digits(0, one);
+                    x.digits(1, other);
+                    x.times(0, 1, isByValues);
+                    CHECK.same("told of " + one + " times " + other, x.told(0), x.product(one, other));
+                    for (int number : Check.numbers(x, 0)) {
+                        CHECK.same(number + " is above 1800", number > 1800, false);
+                    }
+                }
+            }
+        }
+    }
+
     private static void toldEachPlace() {
         CHECK.sentence("Promise 20, each times 16 to the power of its place, as a long that goes round");
         for (int n : Check.LENGTHS) {
@@ -366,12 +394,14 @@ final class ProductEdgesTest {
         invertOneValueZero();
         invertOnePlace();
         invertTimes();
+        invertEachNumber();
         productEdges();
         productAtTheSign();
         productByAnyRows();
         digitsEdges();
         digitsLength();
         digitsTimes();
+        productByDigits();
         toldEachPlace();
         toldAddedUp();
         toldOfDigits();
