@@ -154,6 +154,16 @@ final class ProductEdgesTest {
         Check.put(x, 1, 5, 6);
         CHECK.same("how many are 0", x.plainTimes(0, 1), 1);
         CHECK.row("3, 4 times 5, 6", x, 0, 15, 38, 24, 0);
+        x.make(2, 16);
+        x.make(3, 16);
+        x.fill(3, 0, 65536);
+        x.combine(2, 3, '+');
+        for (int row = 0; row < 2; row++) {
+            Check.put(x, row, Check.ramp(8));
+            CHECK.same("ramps by 1", x.multiply(row, 1), 0);
+        }
+        CHECK.same("how many are 0", x.plainTimes(0, 1), 1);
+        CHECK.row("ramps", x, 0, 1, 4, 10, 20, 35, 56, 84, 120, 147, 164, 170, 164, 145, 112, 64, 0);
     }
 
     private static void plainUnlikeOrSixteen() {
